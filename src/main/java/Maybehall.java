@@ -5,8 +5,8 @@ public final class Maybehall {
     private static final int LEAST = -999;
     private static final int GREATEST = 999;
     private static final int REFUSED = -9999;
-    // Stands in a row where there is no number; no sum or product that is kept can be equal to it.
-    private static final int NOTHING = Integer.MIN_VALUE;
+    // Stands in a row where there is no number; it is none of the numbers that a row may hold.
+    private static final int NOTHING = -10000;
 
     private static final int RULES = 6;
     private static final int TURNS = 6;

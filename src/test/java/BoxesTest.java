@@ -57,11 +57,12 @@ public final class BoxesTest {
         Maybehall x = new Maybehall();
         check.due("empty(0) of an empty one", 0, x.empty(0));
         x.fill(0, 0);
-        x.fill(1, 7);
-        check.due("empty(0) of a full one", 1, x.empty(0));
-        check.due("empty(0) again", 0, x.empty(0));
-        check.due("isEmpty(0)", true, x.isEmpty(0));
-        check.due("get(1), another one", 7, x.get(1));
+        x.fill(5, 7);
+        check.due("empty(5) of a full one", 1, x.empty(5));
+        check.due("empty(5) again", 0, x.empty(5));
+        check.due("isEmpty(5)", true, x.isEmpty(5));
+        check.due("get(0), another one", 0, x.get(0));
+        check.due("empty(0) of one with 0", 1, x.empty(0));
     }
 
     private static void fillMaybe() {
@@ -239,6 +240,9 @@ public final class BoxesTest {
         filtered(5, 3, 5, true);
         filtered(999, 4, -999, false);
         filtered(5, 4, 5, false);
+        filtered(0, 0, -1, true);
+        filtered(0, 1, 0, false);
+        filtered(0, 2, -998, true);
     }
 
     private static void filtered(int number, int test, int by, boolean isLet) {
@@ -289,12 +293,13 @@ public final class BoxesTest {
     private static void wrap() {
         Maybehall x = new Maybehall();
         x.fill(1, -44);
-        check.due("wrap(0, 1)", 1, x.wrap(0, 1));
-        check.due("get(0)", -44, x.get(0));
+        check.due("wrap(5, 1)", 1, x.wrap(5, 1));
+        check.due("get(5)", -44, x.get(5));
         check.due("get(1) stays", -44, x.get(1));
         check.due("wrap(1, 1)", 1, x.wrap(1, 1));
-        check.due("wrap(0, 2) from an empty one", 0, x.wrap(0, 2));
-        check.due("isEmpty(0)", true, x.isEmpty(0));
+        check.due("wrap(5, 2) from an empty one", 0, x.wrap(5, 2));
+        check.due("isEmpty(5)", true, x.isEmpty(5));
+        check.due("isEmpty(0), never told", true, x.isEmpty(0));
         check.due("wrapping asks nothing", 0, x.house(2));
     }
 

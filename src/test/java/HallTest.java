@@ -72,6 +72,50 @@ public final class HallTest {
         differs("a refusal", y -> y.get(0));
         differs("an ask", y -> y.or(0, 1, 2));
         differs("one that was left", y -> y.takeOrLeave(0));
+        digestOfMany();
+    }
+
+    private static void digestOfMany() {
+        Maybehall x = new Maybehall();
+        int[] numbers = {-999, 7, -7, 0, 85, 999};
+        for (int box = 0; box < 6; box++) {
+            x.fill(box, numbers[box]);
+            check.due("digest() with boxes 0 to " + box + " full", digestFromFace(x), x.digest());
+        }
+        x.fillPlain(1, 3);
+        x.take(1);
+        x.empty(2);
+        x.takeOrLeave(2);
+        x.get(2);
+        x.knock();
+        check.due("digest() after all kinds of counts", digestFromFace(x), x.digest());
+        check.due("digest() counts nothing", 2, x.house(2));
+        check.due("digest() refuses nothing", 1, x.house(6));
+    }
+
+    /** The promise's sum, from answers of the other methods; getPlain() is asked of full ones alone, as it is counted. */
+    private static long digestFromFace(Maybehall x) {
+        long d = 7715;
+        for (int what = 0; what <= 8; what++) {
+            d = d * 31 + x.house(what);
+        }
+        for (int box = 0; box < 6; box++) {
+            d = d * 31 + (x.isFull(box) ? 1 : 0);
+            d = d * 31 + x.code(box);
+            d = d * 31 + x.told(box).length();
+            for (int other = 0; other < 6; other++) {
+                for (int order = 0; order < 3; order++) {
+                    d = d * 31 + x.compare(box, other, order);
+                }
+            }
+        }
+        d = d * 31 + x.codes(0, 1, 2);
+        d = d * 31 + x.codes(3, 4, 5);
+        for (int plain = 0; plain < 2; plain++) {
+            d = d * 31 + (x.isFullPlain(plain) ? 1 : 0);
+            d = d * 31 + (x.isFullPlain(plain) ? x.getPlain(plain) : 0);
+        }
+        return d * 31 + (x.isSound() ? 1 : 0);
     }
 
     /** Nine counts, six boxes with 3 values and 18 comparisons each, two codes, two plain boxes, and the soundness. */

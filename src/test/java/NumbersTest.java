@@ -135,6 +135,10 @@ public final class NumbersTest {
             check.due("told(0) of " + number, String.valueOf(number), x.told(0));
         }
         String kept = x.told(0);
+        x.fill(5, -20);
+        check.due("told(5)", "-20", x.told(5));
+        check.due("told(4) of nothing", "none", x.told(4));
+        check.due("telling asks and refuses nothing", 0, x.house(2) + x.house(6));
         x.empty(0);
         check.due("told(0) of nothing again", "none", x.told(0));
         check.due("a text told earlier", "999", kept);
