@@ -8,6 +8,7 @@ import java.nio.file.Path;
 import java.util.EnumSet;
 import java.util.HashMap;
 import java.util.HashSet;
+import java.util.List;
 import java.util.Map;
 import java.util.Set;
 import javax.lang.model.element.Element;
@@ -56,7 +57,9 @@ public final class LanguageTest extends TreePathScanner<Void, Void> {
         JavaCompiler compiler = ToolProvider.getSystemJavaCompiler();
         try (StandardJavaFileManager files = compiler.getStandardFileManager(null, null, null)) {
             var sources = files.getJavaFileObjects(Path.of("src/main/java/" + NAME + ".java"));
-            JavacTask task = (JavacTask) compiler.getTask(null, files, null, null, null, sources);
+            // Two texts joined by + would be one in the tree already.
+            var unfolded = List.of("-XDallowStringFolding=false");
+            JavacTask task = (JavacTask) compiler.getTask(null, files, null, unfolded, null, sources);
             CompilationUnitTree unit = task.parse().iterator().next();
             task.analyze();
             LanguageTest test = new LanguageTest(Trees.instance(task), unit);
